@@ -41,6 +41,12 @@ public final class MarginsTest {
             Check.same("26 of " + trader, x.marginOf(trader), want[trader]);
             Check.same("27 of " + trader, x.marginByPositions(trader), want[trader]);
         }
+        x.trade(4, 5, 0, 2, 9);
+        x.trade(4, 5, 3, 3, 9);
+        Check.same("26 bought alone", x.marginOf(4), 13);
+        Check.same("27 bought alone", x.marginByPositions(4), 13);
+        Check.same("26 sold alone", x.marginOf(5), 13);
+        Check.same("27 sold alone", x.marginByPositions(5), 13);
         for (int trader : NOT_OF_SIX) {
             Check.index("26 " + trader, () -> x.marginOf(trader));
             Check.index("27 " + trader, () -> x.marginByPositions(trader));
@@ -89,6 +95,12 @@ public final class MarginsTest {
         x.trade(1, 2, 0, 1, 9);
         Check.same("29 a group of four and a pair", x.payments(), 4);
         Check.same("30 a group of four and a pair", x.paymentsByGroups(), 4);
+        HorizonExchange z = market(1);
+        z.trade(0, 1, 0, 1, 9);
+        z.setQuote(0, 51);
+        Check.same("30 asked first, for one coin", z.paymentsByGroups(), 1);
+        z.setQuote(0, 49);
+        Check.same("29 for one coin", z.payments(), 1);
         HorizonExchange y = new HorizonExchange();
         Check.same("29 nobody", y.payments(), 0);
         Check.same("30 nobody", y.paymentsByGroups(), 0);

@@ -20,6 +20,7 @@ public final class ModificationsTest {
         defaultUsesNoCalledTaker();
         defaultsInOrder();
         defaultMoney();
+        fullExchange();
         deposit();
         withdraw();
         contribute();
@@ -499,6 +500,55 @@ public final class ModificationsTest {
         Check.same("6 no debt", x.moneyOf(1), 0);
         x.dawn();
         Check.same("6 stays defaulted", x.hasDefaulted(1) + " " + x.isCalled(1), "true false");
+    }
+
+    /** Four horizons, six traders and twenty contracts; trader 0 has bought on every horizon, and defaults. */
+    private static void fullExchange() {
+        HorizonExchange x = new HorizonExchange();
+        for (int horizon = 0; horizon < 4; horizon++) {
+            x.addHorizon(50, 1 + horizon);
+        }
+        x.addTrader(40);
+        for (int trader = 1; trader < 6; trader++) {
+            x.addTrader(900);
+        }
+        for (int contract = 0; contract < 20; contract++) {
+            int horizon = contract % 4;
+            int seller = 1 + contract % 5;
+            x.trade(contract < 8 ? 0 : 1 + (contract + 1) % 5, seller, horizon, contract < 8 ? 2 : 3, 1 + contract % 9);
+        }
+        Check.same("4 twenty", x.contractCount(), 20);
+        Check.same("26 of the first", x.marginOf(0), 40);
+        x.setQuote(3, 49);
+        Check.same("6 nobody yet", x.dawn(), 0);
+        Check.same("6 called", x.isCalled(0), true);
+        Check.same("6 expired", x.contractCount(), 17);
+        Check.same("6 its variation", x.moneyOf(0), 36);
+        Check.same("31 both ways", x.leastMargins(0), x.leastMarginsBySets(0));
+        Check.same("29 both ways", x.payments(), x.paymentsByGroups());
+        x.setQuote(0, 48);
+        x.setQuote(1, 52);
+        x.setQuote(2, 45);
+        x.setQuote(3, 40);
+        Check.same("45 consistent", x.isConsistent(), true);
+        int takers = 0;
+        for (int horizon = 0; horizon < 4; horizon++) {
+            takers |= 1 << x.takerOf(0, horizon);
+        }
+        Check.same("33 four takers, and not itself", Integer.bitCount(takers) + " " + (takers & 1), "4 0");
+        Check.same("6 a default", x.dawn(), 1);
+        Check.same("6 prices", x.priceOf(0) + " " + x.priceOf(1), "48 52");
+        Check.same("6 prices", x.priceOf(2) + " " + x.priceOf(3), "45 40");
+        Check.same("45 consistent", x.isConsistent(), true);
+        int margins = 0;
+        for (int trader = 0; trader < 6; trader++) {
+            margins += x.marginOf(trader);
+        }
+        Check.same("40 all margins", x.meanMargin(), margins / 6.0);
+        Check.same("41 five of six", x.soundShare(), 5.0f / 6.0f);
+        for (int contract = 0; contract < x.contractCount(); contract++) {
+            Check.same("6 no contract of the first", x.buyerOf(contract) == 0 || x.sellerOf(contract) == 0, false);
+        }
     }
 
     private static void deposit() {

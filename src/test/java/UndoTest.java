@@ -7,6 +7,7 @@ public final class UndoTest {
         eightAtMost();
         wholeTexts();
         wholeStates();
+        shiftedContracts();
         whatIsNotUndone();
         snapshots();
         snapshotsAreKept();
@@ -140,6 +141,37 @@ public final class UndoTest {
         Check.same("6 the same default", x.dawn(), 1);
     }
 
+    /** At each dawn the first contract ends, so that all the others get other numbers. */
+    private static void shiftedContracts() {
+        HorizonExchange x = market();
+        x.addHorizon(20, 2);
+        x.addTrader(300);
+        x.trade(0, 1, 0, 3, 1);
+        x.trade(1, 2, 1, 4, 2);
+        x.trade(2, 0, 0, 5, 3);
+        x.trade(0, 2, 1, 6, 4);
+        String first = everything(x);
+        x.dawn();
+        String second = everything(x);
+        x.dawn();
+        String third = everything(x);
+        x.dawn();
+        x.undo();
+        Check.same("50 the third", everything(x), third);
+        x.undo();
+        Check.same("50 the second", everything(x), second);
+        x.undo();
+        Check.same("50 the first", everything(x), first);
+        x.save();
+        x.dawn();
+        x.trade(1, 0, 1, 7, 8);
+        x.restore();
+        Check.same("52 the first", everything(x), first);
+        Check.type(x, "dawn;trade 1 0 1 7 8;quote 0 9;pay 0 1;dawn;give 0 0");
+        Check.state("47 the last fails", x::execute);
+        Check.same("47 everything taken back", everything(x), first);
+    }
+
     private static String everything(HorizonExchange x) {
         StringBuilder all = new StringBuilder();
         for (int horizon = 0; horizon < x.horizonCount(); horizon++) {
@@ -196,6 +228,17 @@ public final class UndoTest {
     }
 
     private static void snapshotsAreKept() {
+        HorizonExchange z = new HorizonExchange();
+        z.addHorizon(50, 5);
+        z.addTrader(7);
+        z.save();
+        z.undo();
+        z.undo();
+        z.addHorizon(60, 6);
+        z.addTrader(8);
+        z.restore();
+        Check.same("52 the horizon", z.priceOf(0) + " " + z.quoteOf(0) + " " + z.rangeOf(0), "50 50 5");
+        Check.same("52 the trader", z.moneyOf(0) + " " + z.broughtIn(), "7 7");
         HorizonExchange x = market();
         x.trade(0, 1, 0, 3, 4);
         x.save();
