@@ -168,12 +168,12 @@ public final class HorizonExchange {
     }
 
     public int payments() {
-        settlement.prepare(market);
+        settlement.collect(market);
         return settlement.leastOverSets();
     }
 
     public int paymentsByGroups() {
-        settlement.prepare(market);
+        settlement.collect(market);
         return settlement.leastOverGroups();
     }
 
@@ -448,7 +448,7 @@ public final class HorizonExchange {
     }
 
     private boolean paymentsAgree() {
-        settlement.prepare(market);
+        settlement.collect(market);
         return settlement.leastOverSets() == settlement.leastOverGroups();
     }
 
@@ -931,7 +931,7 @@ public final class HorizonExchange {
         int positionWithout(int trader, int on, int other) {
             int sum = 0;
             for (int contract = 0; contract < contracts; contract++) {
-                if (horizon[contract] != on || concerns(contract, other)) {
+                if (horizon[contract] != on || buyer[contract] == other || seller[contract] == other) {
                     continue;
                 }
                 if (buyer[contract] == trader) {
@@ -1029,7 +1029,7 @@ public final class HorizonExchange {
         private final int[] sums = new int[MOST_TRADERS];
         private int mostGroups;
 
-        void prepare(Market market) {
+        void collect(Market market) {
             count = 0;
             for (int trader = 0; trader < market.traders; trader++) {
                 int variation = market.variation(trader);
@@ -1162,7 +1162,8 @@ public final class HorizonExchange {
             for (int trader = 0; trader < market.traders; trader++) {
                 if ((sound >> trader & 1) != 0) {
                     for (int on = 0; on < market.horizons; on++) {
-                        sum += Math.abs(after[trader][on]) * market.range[on];
+                        int held = after[trader][on];
+                        sum += (held < 0 ? -held : held) * market.range[on];
                     }
                 }
             }

@@ -38,7 +38,7 @@ final class Check {
         thrown(what, call, ArithmeticException.class);
     }
 
-    private static void thrown(String what, Runnable call, Class<?> want) {
+    static void thrown(String what, Runnable call, Class<?> want) {
         Object got = "no exception";
         try {
             call.run();

@@ -6,10 +6,14 @@ import java.lang.reflect.Modifier;
 import java.nio.file.Files;
 import java.nio.file.Path;
 import java.util.ArrayList;
+import java.util.HashMap;
 import java.util.HashSet;
 import java.util.List;
+import java.util.Map;
 import java.util.Set;
 import java.util.TreeSet;
+import java.util.regex.Matcher;
+import java.util.regex.Pattern;
 
 /** The class has the document's face and nothing else that can be seen, and nothing that LANGUAGE.md leaves out. */
 public final class FaceTest {
@@ -17,6 +21,9 @@ public final class FaceTest {
         "\\bassert\\b", "->", "::", "\\bstatic \\{", "\\brecord\\b", "\\binstanceof\\b", "Exact\\b", "\\bgetMessage\\b",
         "\\bhashCode\\b", "\\bSystem\\.(?!arraycopy)", "\"\\s*\\+", "\\+\\s*\"", "\\bString\\.format\\b",
         "[^\\x00-\\x7f]", "\\bprotected\\b", "\\bvolatile\\b", "\\bnative\\b"};
+
+    private static final Pattern METHOD = Pattern.compile("(?: {4}| {8})(?! )(?:[\\w\\[\\]]+ )*[\\w\\[\\]]+ (\\w+)\\((?!.*;$)");
+    private static final Pattern CALL = Pattern.compile("(?<!new )\\b([a-z]\\w*)\\(");
 
     public static void main(String[] args) throws IOException {
         methodsAreTheDocuments();
@@ -109,7 +116,7 @@ public final class FaceTest {
         for (String line : lines) {
             boolean comment = line.trim().matches("(\\*|/\\*|//).*");
             for (String pattern : FORBIDDEN) {
-                boolean found = !comment && java.util.regex.Pattern.compile(pattern).matcher(line).find();
+                boolean found = !comment && Pattern.compile(pattern).matcher(line).find();
                 Check.same("nothing like " + pattern + " in: " + line, found, false);
             }
             if (line.startsWith("import ")) {
@@ -117,6 +124,41 @@ public final class FaceTest {
             }
         }
         lengths(lines);
+        depths(lines);
+    }
+
+    /** Calls that are no recursion go at most eight deep, the call of the face counted as the first. */
+    private static void depths(List<String> lines) {
+        Map<String, Set<String>> calls = new HashMap<>();
+        String method = "";
+        for (String line : lines) {
+            Matcher start = METHOD.matcher(line);
+            if (start.lookingAt()) {
+                method = start.group(1);
+                calls.putIfAbsent(method, new HashSet<>());
+            } else if (!line.trim().matches("(\\*|/\\*|//).*")) {
+                Matcher call = CALL.matcher(line);
+                while (call.find()) {
+                    calls.computeIfAbsent(method, name -> new HashSet<>()).add(call.group(1));
+                }
+            }
+        }
+        Check.same("methods found", calls.containsKey("execute") && calls.containsKey("positionWithout"), true);
+        for (String name : calls.keySet()) {
+            Check.same("at most eight deep from " + name, depth(calls, name, new ArrayList<>()) <= 8, true);
+        }
+    }
+
+    private static int depth(Map<String, Set<String>> calls, String name, List<String> open) {
+        int most = 0;
+        open.add(name);
+        for (String next : calls.get(name)) {
+            if (calls.containsKey(next) && !open.contains(next)) {
+                most = Math.max(most, depth(calls, next, open));
+            }
+        }
+        open.remove(open.size() - 1);
+        return most + 1;
     }
 
     /** Methods stand at one or two steps to the right, and end with a brace there. */

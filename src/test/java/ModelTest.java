@@ -1,8 +1,3 @@
-import java.lang.reflect.InvocationTargetException;
-import java.lang.reflect.Method;
-import java.util.ArrayList;
-import java.util.List;
-
 /** Long runs of calls, the same ones in every test, on the exchange and on the model: every answer must be the same. */
 public final class ModelTest {
     private static final int RUNS = 1500;
@@ -16,12 +11,10 @@ public final class ModelTest {
         "broughtIn", "withdrawn", "dayCount", "meanMargin", "soundShare", "writeContract", "writeTrader", "lineAt",
         "isConsistent", "errorPosition", "failedCommand"};
 
-    private final HorizonExchange exchange = new HorizonExchange();
-    private final Model model = new Model();
-    private final List<String> calls = new ArrayList<>();
+    private final Both both = new Both();
+    private final Model model = both.model;
     private final boolean wild;
     private long seed;
-    private boolean wrong;
 
     private ModelTest(int run) {
         seed = run * 7919L + 17;
@@ -33,14 +26,14 @@ public final class ModelTest {
         for (int run = 0; run < RUNS; run++) {
             ModelTest test = new ModelTest(run);
             test.run();
-            Check.same("run " + run + " of " + test.calls.size() + " calls", test.wrong, false);
+            Check.same("run " + run + " of " + test.both.size() + " calls", test.both.isWrong(), false);
             Model m = test.model;
             int[] more = {m.defaults, m.takenOver, m.severalTakenOver, m.ties, m.withoutTakers, m.severalAtOnce,
                 m.fundPaid};
             for (int i = 0; i < seen.length; i++) {
                 seen[i] += more[i];
             }
-            if (test.wrong) {
+            if (test.both.isWrong()) {
                 break;
             }
         }
@@ -60,20 +53,20 @@ public final class ModelTest {
 
     private void run() throws ReflectiveOperationException {
         begin();
-        while (calls.size() < CALLS - LAST_QUESTIONS - 61 && !wrong) {
+        while (both.size() < CALLS - LAST_QUESTIONS - 61 && !both.isWrong()) {
             step();
         }
-        for (int left = LAST_QUESTIONS; left > 0 && !wrong; left--) {
+        for (int left = LAST_QUESTIONS; left > 0 && !both.isWrong(); left--) {
             question();
         }
     }
 
     private void begin() throws ReflectiveOperationException {
         for (int i = wild ? pick(5) : 1 + pick(4); i > 0; i--) {
-            call("addHorizon", 1 + pick(99), 1 + pick(pick(2) == 0 ? 20 : 3));
+            both.call("addHorizon", 1 + pick(99), 1 + pick(pick(2) == 0 ? 20 : 3));
         }
         for (int i = wild ? pick(7) : 2 + pick(5); i > 0; i--) {
-            call("addTrader", pick(3) == 0 ? pick(100) : pick(600));
+            both.call("addTrader", pick(3) == 0 ? pick(100) : pick(600));
         }
     }
 
@@ -82,23 +75,23 @@ public final class ModelTest {
         if (kind < 26) {
             int quantity = wild ? pick(23) - 1 : 1 + pick(12);
             int days = wild ? pick(11) : 1 + pick(9);
-            call("trade", trader(), trader(), horizon(), quantity, days);
+            both.call("trade", trader(), trader(), horizon(), quantity, days);
         } else if (kind < 34) {
-            call("setQuote", horizon(), quote());
+            both.call("setQuote", horizon(), quote());
         } else if (kind < 46) {
-            call("dawn");
+            both.call("dawn");
         } else if (kind < 51) {
-            call("deposit", trader(), amount());
+            both.call("deposit", trader(), amount());
         } else if (kind < 56) {
-            call("withdraw", trader(), amount());
+            both.call("withdraw", trader(), amount());
         } else if (kind < 59) {
-            call("contribute", trader(), amount());
+            both.call("contribute", trader(), amount());
         } else if (kind < 63) {
-            call(pick(2) == 0 ? "addTrader" : "addHorizon", pick(120), pick(22));
+            both.call(pick(2) == 0 ? "addTrader" : "addHorizon", pick(120), pick(22));
         } else if (kind < 68) {
-            call("undo");
+            both.call("undo");
         } else if (kind < 70) {
-            call(pick(3) == 0 ? "restore" : "save");
+            both.call(pick(3) == 0 ? "restore" : "save");
         } else if (kind < 74) {
             text();
         } else {
@@ -144,9 +137,9 @@ public final class ModelTest {
             }
         }
         for (int i = 0; i < text.length() && i < 60; i++) {
-            call("type", (int) text.charAt(i));
+            both.call("type", (int) text.charAt(i));
         }
-        call("execute");
+        both.call("execute");
     }
 
     private String command() {
@@ -165,47 +158,15 @@ public final class ModelTest {
     private void question() throws ReflectiveOperationException {
         String name = QUESTIONS[pick(QUESTIONS.length)];
         switch (name) {
-            case "priceOf", "quoteOf", "rangeOf", "openQuantity" -> call(name, pick(8) == 0 ? pick(8) - 2 : horizon());
+            case "priceOf", "quoteOf", "rangeOf", "openQuantity" -> both.call(name, pick(8) == 0 ? pick(8) - 2 : horizon());
             case "moneyOf", "isCalled", "hasDefaulted", "marginOf", "marginByPositions", "variationOf", "leastMargins",
                 "leastMarginsBySets", "writeTrader", "traderByMoney" ->
-                call(name, pick(8) == 0 ? pick(10) - 2 : trader());
-            case "positionOf", "takerOf" -> call(name, trader(), horizon());
+                both.call(name, pick(8) == 0 ? pick(10) - 2 : trader());
+            case "positionOf", "takerOf" -> both.call(name, trader(), horizon());
             case "buyerOf", "sellerOf", "horizonOf", "quantityOf", "daysLeft", "writeContract" ->
-                call(name, pick(8) == 0 ? pick(24) - 2 : pick(Math.max(1, model.contractCount())));
-            case "lineAt" -> call(name, pick(12) - 1);
-            default -> call(name);
-        }
-    }
-
-    private void call(String name, int... all) throws ReflectiveOperationException {
-        Method method = method(HorizonExchange.class, name);
-        Object[] args = new Object[method.getParameterCount()];
-        for (int i = 0; i < args.length; i++) {
-            args[i] = name.equals("type") ? (Object) (char) all[i] : (Object) all[i];
-        }
-        calls.add(name + List.of(args));
-        String got = answer(method, exchange, args);
-        String due = answer(method(Model.class, name), model, args);
-        if (!got.equals(due)) {
-            wrong = true;
-            System.out.println(String.join("\n", calls) + " answered " + got + ", due is " + due);
-        }
-    }
-
-    private static Method method(Class<?> owner, String name) throws ReflectiveOperationException {
-        for (Method method : owner.getMethods()) {
-            if (method.getName().equals(name)) {
-                return method;
-            }
-        }
-        throw new NoSuchMethodException(name);
-    }
-
-    private static String answer(Method method, Object on, Object[] args) throws ReflectiveOperationException {
-        try {
-            return String.valueOf(method.invoke(on, args));
-        } catch (InvocationTargetException e) {
-            return "throws." + e.getCause().getClass().getName();
+                both.call(name, pick(8) == 0 ? pick(24) - 2 : pick(Math.max(1, model.contractCount())));
+            case "lineAt" -> both.call(name, pick(12) - 1);
+            default -> both.call(name);
         }
     }
 }

@@ -179,6 +179,11 @@ public final class TextTest {
         failsAt(x, "trader 1;draw 0 2", 1);
         failsAt(x, "trader 1;give 0 2", 1);
         failsAt(x, "trader 1;draw 0 1;draw 0 1", 2);
+        failuresOfTrades();
+    }
+
+    private static void failuresOfTrades() {
+        HorizonExchange x = new HorizonExchange();
         failsAt(x, "trader 1;trader 1;horizon 5 5;trade 0 1 0 1 1", 3);
         failsAt(x, "trader 9;trader 9;horizon 5 5;trade 0 1 0 1 0", 3);
         failsAt(x, "trader 9;trader 9;horizon 5 5;trade 0 0 0 1 1", 3);

@@ -8,6 +8,7 @@ public final class UndoTest {
         wholeTexts();
         wholeStates();
         shiftedContracts();
+        shiftedContractsOfASnapshot();
         whatIsNotUndone();
         snapshots();
         snapshotsAreKept();
@@ -134,15 +135,23 @@ public final class UndoTest {
         x.setQuote(1, 30);
         x.dawn();
         x.setQuote(0, 40);
-        String before = everything(x);
+        String before = Look.state(x);
         Check.same("6 a default", x.dawn(), 1);
         Check.same("50 the dawn", x.undo(), 7);
-        Check.same("50 everything", everything(x), before);
+        Check.same("50 everything", Look.state(x), before);
         Check.same("6 the same default", x.dawn(), 1);
     }
 
     /** At each dawn the first contract ends, so that all the others get other numbers. */
     private static void shiftedContracts() {
+        HorizonExchange x = endingInTurn(3);
+        for (int day = 2; day >= 0; day--) {
+            x.undo();
+            Check.same("50 back to day " + day, Look.state(x), Look.state(endingInTurn(day)));
+        }
+    }
+
+    private static HorizonExchange endingInTurn(int dawns) {
         HorizonExchange x = market();
         x.addHorizon(20, 2);
         x.addTrader(300);
@@ -150,42 +159,23 @@ public final class UndoTest {
         x.trade(1, 2, 1, 4, 2);
         x.trade(2, 0, 0, 5, 3);
         x.trade(0, 2, 1, 6, 4);
-        String first = everything(x);
-        x.dawn();
-        String second = everything(x);
-        x.dawn();
-        String third = everything(x);
-        x.dawn();
-        x.undo();
-        Check.same("50 the third", everything(x), third);
-        x.undo();
-        Check.same("50 the second", everything(x), second);
-        x.undo();
-        Check.same("50 the first", everything(x), first);
+        for (int dawn = 0; dawn < dawns; dawn++) {
+            x.dawn();
+        }
+        return x;
+    }
+
+    private static void shiftedContractsOfASnapshot() {
+        HorizonExchange x = endingInTurn(0);
+        String first = Look.state(x);
         x.save();
         x.dawn();
         x.trade(1, 0, 1, 7, 8);
         x.restore();
-        Check.same("52 the first", everything(x), first);
+        Check.same("52 the first", Look.state(x), first);
         Check.type(x, "dawn;trade 1 0 1 7 8;quote 0 9;pay 0 1;dawn;give 0 0");
         Check.state("47 the last fails", x::execute);
-        Check.same("47 everything taken back", everything(x), first);
-    }
-
-    private static String everything(HorizonExchange x) {
-        StringBuilder all = new StringBuilder();
-        for (int horizon = 0; horizon < x.horizonCount(); horizon++) {
-            all.append(x.priceOf(horizon)).append(',').append(x.quoteOf(horizon)).append(',');
-            all.append(x.rangeOf(horizon)).append(' ');
-        }
-        for (int trader = 0; trader < x.traderCount(); trader++) {
-            all.append(Check.line(x, x.writeTrader(trader))).append(' ');
-        }
-        for (int contract = 0; contract < x.contractCount(); contract++) {
-            all.append(Check.line(x, x.writeContract(contract))).append(' ');
-        }
-        all.append(x.fund()).append(' ').append(x.writtenOff()).append(' ').append(x.broughtIn()).append(' ');
-        return all.append(x.withdrawn()).append(' ').append(x.dayCount()).toString();
+        Check.same("47 everything taken back", Look.state(x), first);
     }
 
     private static void whatIsNotUndone() {
