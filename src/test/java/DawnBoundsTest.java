@@ -14,6 +14,7 @@ public final class DawnBoundsTest {
         theDefaultedAreNotLookedAt();
         soundTradersAndPositions();
         positionsOfNobodyElse();
+        whoIsStillToDefaultTakesNothing();
         noPositionNeedsNoTaker();
         whatTheFundPays();
         theFundInTheOrderOfNumbers();
@@ -301,6 +302,24 @@ public final class DawnBoundsTest {
         Check.noElement("33 no position", () -> x.takerOf(1, 0));
     }
 
+    /** Trader 2 would be the best taker for 1, but defaults at the same dawn, after 1. */
+    private static void whoIsStillToDefaultTakesNothing() {
+        HorizonExchange x = market(500, 50, 110, 900);
+        x.trade(3, 1, 0, 10, 9);
+        x.trade(2, 3, 0, 10, 9);
+        x.trade(3, 2, 1, 20, 1);
+        Check.same("33 the best while it is sound", x.takerOf(1, 0), 2);
+        x.setQuote(0, 52);
+        x.setQuote(1, 56);
+        x.dawn();
+        Check.same("6 both are called", x.isCalled(1) + " " + x.isCalled(2), "true true");
+        Check.same("33 the lowest of the others", x.takerOf(1, 0), 0);
+        Check.same("6 both default", x.dawn() + " " + x.contractCount(), "2 2");
+        Check.same("6 what 1 had sold", Check.line(x, x.writeContract(0)), "3<0:10h0+7");
+        Check.same("6 what 2 had bought", Check.line(x, x.writeContract(1)), "0<3:10h0+7");
+        Check.same("35 what both had", x.fund(), 40);
+    }
+
     private static void noPositionNeedsNoTaker() {
         HorizonExchange x = market(7);
         Check.same("31 alone", x.leastMargins(0), 0);
@@ -493,6 +512,15 @@ public final class DawnBoundsTest {
         x.deposit(2, 1);
         Check.same("34 511, 0, 512", x.traderByMoney(0) + " " + x.traderByMoney(1) + " " + x.traderByMoney(2), "2 0 1");
         Check.noElement("34 no fourth", () -> x.traderByMoney(3));
+        HorizonExchange y = bound(60);
+        y.dawn();
+        y.addTrader(0);
+        y.addTrader(5);
+        Check.same("34 one has defaulted, and is a trader all the same", y.traderByMoney(0) + " " + y.traderByMoney(1) + " "
+            + y.traderByMoney(2) + " " + y.traderByMoney(3), "0 3 1 2");
+        Check.same("41 three of four", y.soundShare(), 0.75f);
+        y.trade(0, 3, 0, 1, 1);
+        Check.same("40 of four", y.meanMargin(), 2.5);
         HorizonExchange alone = market(0);
         Check.same("34 alone", alone.traderByMoney(0), 0);
         Check.noElement("34 no second", () -> alone.traderByMoney(1));

@@ -22,7 +22,8 @@ public final class FaceTest {
         "\\bhashCode\\b", "\\bSystem\\.(?!arraycopy)", "\"\\s*\\+", "\\+\\s*\"", "\\bString\\.format\\b",
         "[^\\x00-\\x7f]", "\\bprotected\\b", "\\bvolatile\\b", "\\bnative\\b"};
 
-    private static final Pattern METHOD = Pattern.compile("(?: {4}| {8})(?! )(?:[\\w\\[\\]]+ )*[\\w\\[\\]]+ (\\w+)\\((?!.*;$)");
+    private static final Pattern METHOD = Pattern.compile(
+        "(?: {4}| {8})(?! )(?:[\\w\\[\\]]+ )*[\\w\\[\\]]+ (\\w+)\\((?!.*;$)");
     private static final Pattern CALL = Pattern.compile("(?<!new )\\b([a-z]\\w*)\\(");
 
     public static void main(String[] args) throws IOException {

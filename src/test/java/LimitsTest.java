@@ -183,7 +183,8 @@ public final class LimitsTest {
 
     /** After each way in which a text can end the buffer takes 60 characters again. */
     private static void emptiedBuffer() {
-        for (String text : new String[] {"", "dawn", "dawn;dawn", "dawx", "dawn;", "pay 0 1", "dawn;pay 0 1", Places.SIXTY}) {
+        String[] texts = {"", "dawn", "dawn;dawn", "dawx", "dawn;", "pay 0 1", "dawn;pay 0 1", Places.SIXTY};
+        for (String text : texts) {
             HorizonExchange x = new HorizonExchange();
             Check.type(x, text);
             Look.answer(x::execute);

@@ -297,7 +297,8 @@ public final class RefusalTest {
         for (Supplier<HorizonExchange> build : List.<Supplier<HorizonExchange>>of(Places::some, Places::restored,
             Places::full, Places::trouble)) {
             HorizonExchange known = build.get();
-            for (String text : new String[] {"", "x", "dawn;", changes, changes + "give 0 0x", "trader 1;dawn;dawn;trade"}) {
+            String[] malformed = {"", "x", "dawn;", changes, changes + "give 0 0x", "trader 1;dawn;dawn;trade"};
+            for (String text : malformed) {
                 refusedText(build, text, IllegalArgumentException.class);
             }
             String horizon = " " + known.horizonCount() + " ";
@@ -309,6 +310,11 @@ public final class RefusalTest {
         refusedText(Places::full, "pay 0 9;trader 5;dawn", IllegalStateException.class);
         refusedText(Places::full, "pay 0 9;dawn;horizon 5 5", IllegalStateException.class);
         refusedText(Places::trouble, "trader 5;horizon 5 5;dawn;pay 3 1", IllegalStateException.class);
+        for (String command : new String[] {"trade 0 2 0 1 1", "trade 3 1 0 1 1", "trade 0 1 0 1 1", "pay 3 1", "draw 3 1",
+            "give 3 1", "draw 0 1", "give 0 1", "draw 1 2", "give 1 2", "draw 2 1", "give 4 1", "trade 0 0 0 1 1"}) {
+            refusedText(Places::trouble, command, IllegalStateException.class);
+            refusedText(Places::trouble, "quote 0 9;trader 7;" + command + ";dawn", IllegalStateException.class);
+        }
         refusedText(Places::empty, "trader 5;horizon 5 5;trader 5;dawn;pay 2 1", IllegalStateException.class);
     }
 
